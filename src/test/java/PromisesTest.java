@@ -665,15 +665,16 @@ public final class PromisesTest {
     }
 
     private static void promise23Digest() {
-        HexRooms[] houses = {new HexRooms(), house(1), house(5), with(house(3), 2, 0, 20, 36)};
+        HexRooms[] houses = {new HexRooms(), house(1), new HexRooms(), with(house(1), 2, 0, 6)};
         with(houses[0], 2, 1, 5);
         with(houses[0], 1, 7, 11);
         houses[0].shut(1, 3, true);
         houses[0].shut(18, 1, true);
         for (HexRooms house : houses) {
-            Checks.due("digest()", house.digest(), digestOf(house));
+            long digest = house.digest();
+            Checks.due("digest()", digest, digestOf(house));
+            Checks.due("digest(), once more", house.digest(), digest);
         }
-        Checks.due("digest(), once more", houses[0].digest(), digestOf(houses[0]));
         Checks.due("digest(), another house", houses[0].digest() != houses[1].digest(), true);
     }
 
